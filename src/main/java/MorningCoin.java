@@ -102,7 +102,6 @@ public final class MorningCoin {
             return NONE;
         }
         dealings.forget();
-        things.forgetChild(children.count);
         return children.add(sex, wit, home, works ? 1 : 0, coin);
     }
 
@@ -436,7 +435,7 @@ public final class MorningCoin {
     }
 
     public int again() {
-        // What was told behind the image stands behind these counts, so that it is gone with them.
+        // All that is told one by one was only added to since the image: its counts alone bring it back.
         children.count = kept.children;
         children.coins = kept.coins;
         children.had = kept.had;
@@ -637,6 +636,10 @@ public final class MorningCoin {
         final int[] answers = new int[THINGS_MOST * CHILDREN_MOST];
         int count;
 
+        Things() {
+            Arrays.fill(answers, NONE);
+        }
+
         int add(int kind, int age, boolean isLess, int price) {
             if (count >= THINGS_MOST) {
                 return NONE;
@@ -645,9 +648,6 @@ public final class MorningCoin {
             ages[count] = age;
             less[count] = isLess;
             prices[count] = price;
-            for (int one = 0; one < CHILDREN_MOST; one++) {
-                tell(count, one, NONE);
-            }
             count++;
             return count - 1;
         }
@@ -666,12 +666,6 @@ public final class MorningCoin {
                 set |= kinds[i] == kind ? 1 << i : 0;
             }
             return set;
-        }
-
-        void forgetChild(int one) {
-            for (int i = 0; i < THINGS_MOST; i++) {
-                tell(i, one, NONE);
-            }
         }
 
         void tell(int one, int by, int v) {
@@ -854,7 +848,7 @@ public final class MorningCoin {
                 fail(wrong);
             } else {
                 text.emit(token);
-                endOne();
+                state = AT_OPERATOR;
             }
         }
 
@@ -911,13 +905,6 @@ public final class MorningCoin {
                 open--;
                 brackets--;
             }
-            endOne();
-        }
-
-        /** A ONE has ended, and with it each - that it is of. */
-        private void endOne() {
-            settle(rank(NEGATE));
-            state = AT_OPERATOR;
         }
 
         private void push(int token) {
@@ -1373,5 +1360,9 @@ public final class MorningCoin {
         int links;
         int steps;
         int cost = COST_FIRST;
+
+        Image() {
+            Arrays.fill(answers, NONE);
+        }
     }
 }
