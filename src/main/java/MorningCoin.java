@@ -914,7 +914,10 @@ public final class MorningCoin {
             }
         }
 
-        /** Emits what waits and binds as close as a rank, or closer, back to the latest bracket. */
+        /**
+         * Emits what waits and binds as close as a rank, or closer, back to the latest bracket. A - of a ONE waits so
+         * until the TOKEN behind that ONE, which comes ahead of anything that could open next.
+         */
         private void settle(int rank) {
             while (top > 0 && rank(waiting[top - 1]) >= rank) {
                 top--;
