@@ -18,48 +18,12 @@ public final class PromiseTest {
         due(call, got ? 1 : 0, want ? 1 : 0);
     }
 
-    private static int put(MorningCoin x, String s) {
-        int had = x.about(6);
-        int fed = NONE;
-        for (int at = 0; at < s.length(); at += 20) {
-            int[] five = new int[5];
-            for (int i = 0; i < 20; i++) {
-                int b = at + i < s.length() ? s.charAt(at + i) : ' ';
-                five[i / 4] = five[i / 4] << 8 | b;
-            }
-            fed = x.feed(five[0], five[1], five[2], five[3], five[4]);
-        }
-        return s.isEmpty() ? had : x.end(Math.min(had + s.length(), Math.max(fed, 0)));
-    }
-
-    private static int read(MorningCoin x, String s) {
-        x.end(0);
-        put(x, s);
-        return x.text();
-    }
-
     private static void fault(String s, int what, int place) {
         MorningCoin x = new MorningCoin();
-        int number = read(x, s);
+        int number = Edges.read(x, s);
         due("text of " + s, number, what == 0 ? 0 : NONE);
         due("fault(0) of " + s, x.fault(0), what);
         due("fault(1) of " + s, x.fault(1), place);
-    }
-
-    /** Four children, 0 and 2 of them had; answers 8, 2, 6, 4 of one thing. */
-    private static MorningCoin four() {
-        MorningCoin x = new MorningCoin();
-        x.child(0, 10, 0, false, true);
-        x.child(0, 20, 0, false, false);
-        x.child(1, 30, 1, true, true);
-        x.child(1, 40, 1, true, false);
-        x.thing(0, 5, false, 10);
-        answers(x, 0, 8, 2, 6, 4);
-        return x;
-    }
-
-    private static void answers(MorningCoin x, int thing, int... all) {
-        for (int child = 0; child < all.length; child++) x.answer(thing, child, all[child]);
     }
 
     private static void newObject() {
@@ -68,8 +32,8 @@ public final class PromiseTest {
         int[] all = {0, 0, 0, 0, 0, 1000, 0, 0, 0};
         for (int i = 0; i < all.length; i++) due("about " + i, x.about(i), all[i]);
         due("NONE", MorningCoin.NONE, -1);
-        x = four();
-        put(x, "many 1;");
+        x = Edges.four();
+        Edges.put(x, "many 1;");
         x.text();
         x.costs(7);
         x.step(1, 2);
@@ -96,7 +60,7 @@ public final class PromiseTest {
 
     private static void had() {
         promise = 3;
-        MorningCoin x = four();
+        MorningCoin x = Edges.four();
         due("had(1)", x.had(1, true), true);
         due("had(0)", x.had(0, false), true);
         due("had(2) as it is", x.had(2, true), true);
@@ -125,7 +89,7 @@ public final class PromiseTest {
 
     private static void answer() {
         promise = 5;
-        MorningCoin x = four();
+        MorningCoin x = Edges.four();
         due("0", x.answer(0, 0, 0), true);
         due("99", x.answer(0, 1, 99), true);
         due("none", x.answer(0, 2, NONE), true);
@@ -141,7 +105,7 @@ public final class PromiseTest {
 
     private static void answered() {
         promise = 6;
-        MorningCoin x = four();
+        MorningCoin x = Edges.four();
         x.thing(1, 1, true, 1);
         x.child(0, 0, 0, false, false);
         due("told", x.answered(0, 2), 6);
@@ -155,7 +119,7 @@ public final class PromiseTest {
 
     private static void difference() {
         promise = 7;
-        MorningCoin x = four();
+        MorningCoin x = Edges.four();
         due("upper", x.difference(0, 2, 0), (8 + 6) * 2 - (2 + 4) * 2);
         due("lower", x.difference(0, 2, 1), 4);
         due("thousandths", x.difference(0, 2, 2), 4000);
@@ -167,18 +131,18 @@ public final class PromiseTest {
         due("without one, lower", x.difference(0, 2, 1), 2);
         due("of sex 1, none", x.difference(0, 1, 2), NO_D);
         int less = x.thing(0, 5, true, 10);
-        answers(x, less, 1, 2, 0, 2);
+        Edges.answers(x, less, 1, 2, 0, 2);
         x.had(2, false);
         due("less", x.difference(less, 2, 0), -(1 * 3 - 4 * 1));
         due("less, lower", x.difference(less, 2, 1), 3);
         due("less, cut", x.difference(less, 2, 2), 333);
-        answers(x, less, 2, 1, 2, 2);
+        Edges.answers(x, less, 2, 1, 2, 2);
         due("cut towards 0", x.difference(less, 2, 2), -333);
         x.had(0, false);
         due("nobody had", x.difference(0, 2, 0), NO_D);
-        for (int what : new int[] {-1, 3}) due("what " + what, four().difference(0, 2, what), NO_D);
-        for (int sex : new int[] {-1, 3}) due("sex " + sex, four().difference(0, sex, 0), NO_D);
-        for (int t : new int[] {-1, 1}) due("thing " + t, four().difference(t, 2, 0), NO_D);
+        for (int what : new int[] {-1, 3}) due("what " + what, Edges.four().difference(0, 2, what), NO_D);
+        for (int sex : new int[] {-1, 3}) due("sex " + sex, Edges.four().difference(0, sex, 0), NO_D);
+        for (int t : new int[] {-1, 1}) due("thing " + t, Edges.four().difference(t, 2, 0), NO_D);
     }
 
     private static void feed() {
@@ -205,12 +169,12 @@ public final class PromiseTest {
         MorningCoin x = new MorningCoin();
         due("end(0)", x.end(0), 0);
         due("end(1) of none", x.end(1), NONE);
-        put(x, "many 12 ;");
+        Edges.put(x, "many 12 ;");
         due("end(10)", x.end(10), NONE);
         due("end(-1)", x.end(-1), NONE);
         due("nothing is done", x.about(6), 9);
         due("end(6)", x.end(6), 6);
-        put(x, ";");
+        Edges.put(x, ";");
         x.text();
         for (int i = 0; i < 4; i++) x.child(0, 0, 0, false, false);
         due("the first bytes stayed", x.deals(0, NONE), 4);
@@ -220,12 +184,12 @@ public final class PromiseTest {
         promise = 10;
         MorningCoin x = new MorningCoin();
         due("the empty tape", x.text(), 0);
-        put(x, "many 15;");
+        Edges.put(x, "many 15;");
         due("a FAULT", x.text(), NONE);
         due("the tape is empty", x.about(6), 0);
-        for (int i = 1; i < 6; i++) due("text " + i, read(x, "many 1;"), i);
+        for (int i = 1; i < 6; i++) due("text " + i, Edges.read(x, "many 1;"), i);
         due("texts", x.about(2), 6);
-        read(x, "many 15;");
+        Edges.read(x, "many 15;");
         due("the 7th", x.text(), NONE);
         due("the tape stays", x.about(6), 8);
         due("and is not read", x.fault(0), 0);
@@ -233,7 +197,7 @@ public final class PromiseTest {
         due("then it is read", x.text(), NONE);
         due("with its fault", x.fault(0), 2);
         String three = "value " + "1+".repeat(146) + "1;";
-        due("300 bytes", read(x, three), 0);
+        due("300 bytes", Edges.read(x, three), 0);
         x.child(0, 0, 0, false, false);
         x.thing(0, 0, false, 0);
         x.live(0, 0, 0);
@@ -340,8 +304,8 @@ public final class PromiseTest {
 
     private static void deals() {
         promise = 12;
-        MorningCoin x = four();
-        read(x, "many 2;");
+        MorningCoin x = Edges.four();
+        Edges.read(x, "many 2;");
         due("how many", x.deals(0, NONE), 6);
         int[] all = {3, 5, 6, 9, 10, 12};
         for (int i = 0; i < 6; i++) due("deal " + i, x.deals(0, i), all[i]);
@@ -349,20 +313,20 @@ public final class PromiseTest {
         due("deal -2", x.deals(0, -2), NONE);
         due("text 1", x.deals(1, NONE), NONE);
         due("text -1", x.deals(-1, NONE), NONE);
-        read(x, "near 0;");
+        Edges.read(x, "near 0;");
         due("near 0", x.deals(1, NONE), 2);
         due("near 0, first", x.deals(1, 0), 0b0110);
-        read(x, "near 20;many 2;");
+        Edges.read(x, "near 20;many 2;");
         due("near 20", x.deals(2, NONE), 4);
-        read(x, "together home=homeb;apart wit+30=witb;");
+        Edges.read(x, "together home=homeb;apart wit+30=witb;");
         due("bound", x.deals(3, NONE), 2);
         due("bound, first", x.deals(3, 0), 0b0011);
         due("bound, second", x.deals(3, 1), 0b1100);
-        read(x, "over wit>20;many 3;over sex=1;");
+        Edges.read(x, "over wit>20;many 3;over sex=1;");
         due("over", x.deals(4, NONE), 4);
         int[] over = {3, 3, 1, 2};
         for (int i = 0; i < 4; i++) due("over " + i, x.deals(4, i), over[i]);
-        read(x, "many 5;");
+        Edges.read(x, "many 5;");
         due("too many", x.deals(5, NONE), 0);
         due("too many, first", x.deals(5, 0), NONE);
         x.child(0, 99, 5, false, false);
@@ -415,14 +379,14 @@ public final class PromiseTest {
         MorningCoin x = new MorningCoin();
         x.child(1, 7, 3, true, false);
         String s = either.startsWith("1000000") ? "9999*9999<1" : either;
-        due("text of " + s, read(x, "many 1;over " + s + ";"), 0);
+        due("text of " + s, Edges.read(x, "many 1;over " + s + ";"), 0);
         due(s, x.deals(0, 0), is ? 0 : 1);
     }
 
     private static void odds() {
         promise = 13;
-        MorningCoin x = four();
-        read(x, "many 2;");
+        MorningCoin x = Edges.four();
+        Edges.read(x, "many 2;");
         due("as far", x.odds(0, 0, 0), 1);
         due("thousandths", x.odds(0, 0, 1), 166);
         due("t 166", x.odds(0, 0, 1166), 0);
@@ -436,31 +400,31 @@ public final class PromiseTest {
         x.had(2, false);
         x.had(3, true);
         due("as great or greater", x.odds(0, 0, 0), 2);
-        read(x, "many 4;");
+        Edges.read(x, "many 4;");
         due("no deal has D", x.odds(1, 0, 0), 0);
         due("it stands", x.odds(1, 0, 1001), 1);
-        read(x, "many 5;");
+        Edges.read(x, "many 5;");
         due("no deals", x.odds(2, 0, 0), NONE);
         due("no deals, t", x.odds(2, 0, 2000), NONE);
-        read(x, "over sex=1;many 2;");
+        Edges.read(x, "over sex=1;many 2;");
         x.had(3, false);
         due("really, nobody is over", x.odds(3, 0, 0), 2);
         x.had(0, false);
         due("nobody had", x.odds(0, 0, 0), NONE);
-        x = four();
-        read(x, "many 2;");
+        x = Edges.four();
+        Edges.read(x, "many 2;");
         x.thing(0, 0, true, 0);
-        answers(x, 1, 8, 2, 6, 4);
+        Edges.answers(x, 1, 8, 2, 6, 4);
         due("less is better", x.odds(0, 1, 0), 6);
     }
 
     private static void paid() {
         promise = 14;
-        MorningCoin x = four();
+        MorningCoin x = Edges.four();
         for (int i = 1; i < 4; i++) x.thing(0, 0, i == 2, 0);
-        answers(x, 1, 8, 2, 6, 4);
-        answers(x, 2, 8, 2, 6, 4);
-        read(x, "many 2;");
+        Edges.answers(x, 1, 8, 2, 6, 4);
+        Edges.answers(x, 2, 8, 2, 6, 4);
+        Edges.read(x, "many 2;");
         due("both of two", x.paid(0, 0b0011, 334), 0b0011);
         due("the first isn't, so the second neither", x.paid(0, 0b0011, 333), 0);
         due("one alone", x.paid(0, 0b0010, 167), 0b0010);
@@ -475,14 +439,14 @@ public final class PromiseTest {
         due("t 0", x.paid(0, 1, 0), NONE);
         due("t 1001", x.paid(0, 1, 1001), NONE);
         due("text 1", x.paid(1, 1, 1), NONE);
-        answers(x, 0, 6, 2, 8, 9);
+        Edges.answers(x, 0, 6, 2, 8, 9);
         due("ordered by as far", x.paid(0, 0b0011, 334), 0b0010);
     }
 
     private static void few() {
         promise = 15;
-        MorningCoin x = four();
-        read(x, "many 2;");
+        MorningCoin x = Edges.four();
+        Edges.read(x, "many 2;");
         due("one", x.few(0, 0, 200, 0), 1);
         due("the lowest", x.few(0, 0, 200, 1), 0);
         due("no second", x.few(0, 0, 200, 2), NONE);
@@ -502,7 +466,7 @@ public final class PromiseTest {
         x = new MorningCoin();
         for (int i = 0; i < 6; i++) x.child(0, 0, 0, false, i < 3);
         x.thing(0, 0, false, 0);
-        answers(x, 0, 5, 5, 5, 1, 1, 1);
+        Edges.answers(x, 0, 5, 5, 5, 1, 1, 1);
         x.text();
         due("more than two", x.few(0, 0, 1000, 0), NONE);
         due("more than two, lowest", x.few(0, 0, 1000, 1), NONE);
@@ -510,8 +474,8 @@ public final class PromiseTest {
 
     private static void changed() {
         promise = 16;
-        MorningCoin x = four();
-        read(x, "many 2;");
+        MorningCoin x = Edges.four();
+        Edges.read(x, "many 2;");
         due("nobody, least", x.changed(0, 0, false), 1);
         due("nobody, greatest", x.changed(0, 0, true), 1);
         x.had(1, true);
@@ -528,8 +492,8 @@ public final class PromiseTest {
         x = new MorningCoin();
         for (int i = 0; i < 6; i++) x.child(0, 0, 0, false, i < 1);
         x.thing(0, 0, false, 0);
-        answers(x, 0, 6, 5, 4, 3, 2, 1);
-        read(x, "many 1;");
+        Edges.answers(x, 0, 6, 5, 4, 3, 2, 1);
+        Edges.read(x, "many 1;");
         for (int i = 1; i < 6; i++) x.had(i, true);
         due("four are taken, least", x.changed(0, 0, false), 2);
         due("four are taken, greatest", x.changed(0, 0, true), 5);
@@ -537,7 +501,7 @@ public final class PromiseTest {
 
     private static void lost() {
         promise = 17;
-        MorningCoin x = four();
+        MorningCoin x = Edges.four();
         due("all found", x.lost(0, true), 4000);
         x.answer(0, 3, NONE);
         due("least", x.lost(0, false), 7000 - (2000 + 99000) / 2);
@@ -546,7 +510,7 @@ public final class PromiseTest {
         due("least of two", x.lost(0, false), 3000 - 50500);
         due("greatest of two", x.lost(0, true), (99 + 6) * 500 - 1000);
         int less = x.thing(0, 0, true, 0);
-        answers(x, less, 8, 2, 6, NONE);
+        Edges.answers(x, less, 8, 2, 6, NONE);
         due("less, least", x.lost(less, false), -6000);
         due("less, greatest", x.lost(less, true), 43500);
         due("thing 2", x.lost(2, true), NO_D);
@@ -562,7 +526,7 @@ public final class PromiseTest {
 
     private static void costs() {
         promise = 18;
-        MorningCoin x = four();
+        MorningCoin x = Edges.four();
         due("cost at first", x.back(1, 0), 40);
         due("costs(1)", x.costs(1), true);
         due("by 1", x.back(1, 0), 40000);
@@ -576,18 +540,18 @@ public final class PromiseTest {
 
     private static void back() {
         promise = 19;
-        MorningCoin x = four();
+        MorningCoin x = Edges.four();
         x.thing(0, 0, true, 999);
-        answers(x, 1, 0, 1, 0, 1);
+        Edges.answers(x, 1, 0, 1, 0, 1);
         x.thing(0, 0, false, 50);
         x.thing(0, 0, false, 20);
-        answers(x, 3, 2, 0, 2, 0);
+        Edges.answers(x, 3, 2, 0, 2, 0);
         due("one", x.back(1, 0), 40);
         due("two", x.back(3, 0), 40 + 999);
         due("one without D", x.back(7, 0), 40 + 999);
         due("most", x.back(7, 1), 1);
         due("most of like ones", x.back(9, 1), 0);
-        answers(x, 3, 0, 1, 0, 0);
+        Edges.answers(x, 3, 0, 1, 0, 0);
         x.costs(3);
         due("below 0, cut", x.back(8, 0), -20 * 500 / 3);
         due("most below 0", x.back(8, 1), 3);
@@ -602,7 +566,7 @@ public final class PromiseTest {
         for (int i = 0; i < 2; i++) x.child(0, 0, 0, false, i == 0);
         for (int i = 0; i < 12; i++) {
             x.thing(0, 0, false, 999);
-            answers(x, i, 99, 0);
+            Edges.answers(x, i, 99, 0);
         }
         x.costs(1);
         due("the greatest", x.back(4095, 0), 12 * 999 * 99000);
@@ -610,11 +574,11 @@ public final class PromiseTest {
 
     private static void course() {
         promise = 20;
-        MorningCoin x = four();
-        read(x, "many 2;");
+        MorningCoin x = Edges.four();
+        Edges.read(x, "many 2;");
         for (int age : new int[] {9, 1, 5, 7, 3}) x.thing(1, age, false, 0);
         int[][] all = {{8, 2, 6, 4}, {8, 2, 6, 4}, {2, 8, 4, 6}, {9, 2, 9, 4}};
-        for (int i = 0; i < 4; i++) answers(x, 1 + i, all[i]);
+        for (int i = 0; i < 4; i++) Edges.answers(x, 1 + i, all[i]);
         due("bits", x.course(0, 1, 200, 0), 0b11001);
         due("gone", x.course(0, 1, 200, 1), 1);
         due("again", x.course(0, 1, 200, 2), 3);
@@ -694,8 +658,8 @@ public final class PromiseTest {
 
     private static void gap() {
         promise = 23;
-        MorningCoin x = four();
-        read(x, "many 2;");
+        MorningCoin x = Edges.four();
+        Edges.read(x, "many 2;");
         due("as far", x.gap(0, 0), 4);
         x.answer(0, 3, 6);
         due("farther than none", x.gap(0, 0), 4);
@@ -707,19 +671,19 @@ public final class PromiseTest {
         x = new MorningCoin();
         for (int i = 0; i < 6; i++) x.child(i / 3, 0, 0, false, i % 3 == 0);
         x.thing(0, 0, true, 0);
-        answers(x, 0, 9, 1, 1, 1, 1, 9);
+        Edges.answers(x, 0, 9, 1, 1, 1, 1, 9);
         x.text();
         // The GAP is -8 less 4. By sex 0 D may be -8, 4, 4, -4, -4, 8, by sex 1 4, 4, -8, 8, -4, -4.
         due("of all deals", x.gap(0, 0), 3 + 2 + 2 + 3);
-        read(x, "many 7;");
+        Edges.read(x, "many 7;");
         due("no deals", x.gap(1, 0), NONE);
-        read(x, "over sex=1;");
+        Edges.read(x, "over sex=1;");
         due("all of one sex over", x.gap(2, 0), 0);
     }
 
     private static void step() {
         promise = 24;
-        MorningCoin x = four();
+        MorningCoin x = Edges.four();
         due("low above high", x.step(1, 0), NONE);
         due("low -101", x.step(-101, 0), NONE);
         due("high 201", x.step(0, 201), NONE);
@@ -732,7 +696,7 @@ public final class PromiseTest {
 
     private static void land() {
         promise = 25;
-        MorningCoin x = four();
+        MorningCoin x = Edges.four();
         due("no step", x.land(0, true), 4000);
         x.step(50, 100);
         due("least", x.land(0, false), 2000);
@@ -751,8 +715,8 @@ public final class PromiseTest {
         x.had(0, false);
         x.had(2, false);
         due("no D", x.land(0, true), NO_D);
-        x = four();
-        answers(x, 0, 99, 0, 99, 0);
+        x = Edges.four();
+        Edges.answers(x, 0, 99, 0, 99, 0);
         for (int i = 0; i < 8; i++) x.step(-100, 200);
         due("the greatest", x.land(0, true), 99000 * 256);
         due("the least", x.land(0, false), -99000 * 128);
@@ -760,23 +724,23 @@ public final class PromiseTest {
 
     private static void live() {
         promise = 26;
-        MorningCoin x = four();
-        read(x, "value wit/10+had*3;found draw<50;");
+        MorningCoin x = Edges.four();
+        Edges.read(x, "value wit/10+had*3;found draw<50;");
         due("how many", x.live(0, 0, 1), 2);
         // X is 18, 3083, 11707, 584.
         lived(x, "one law", 4, NONE, 6, NONE);
         due("found again", x.live(0, 0, 1), 2);
-        x = four();
-        read(x, "value draw-age*10;");
+        x = Edges.four();
+        Edges.read(x, "value draw-age*10;");
         due("all are found", x.live(0, 0, 1), 4);
         lived(x, "draw", 0, 33, 0, 34);
-        read(x, "found draw=18;found wit=40 and sex=1 and home=1 and works=1;value 100+draw;");
+        Edges.read(x, "found draw=18;found wit=40 and sex=1 and home=1 and works=1;value 100+draw;");
         due("either law", x.live(1, 0, 1), 2);
         lived(x, "either law", 99, NONE, NONE, 99);
-        read(x, "found had=1;");
+        Edges.read(x, "found had=1;");
         due("without value", x.live(2, 0, 9999), 2);
         lived(x, "without value", 0, NONE, 0, NONE);
-        read(x, "value draw;");
+        Edges.read(x, "value draw;");
         x.live(3, 0, 9999);
         lived(x, "the last seed", 4, 27, 86, 74);
         x.live(3, 0, 0);
@@ -793,13 +757,13 @@ public final class PromiseTest {
     }
 
     private static MorningCoin full() {
-        MorningCoin x = four();
+        MorningCoin x = Edges.four();
         x.thing(1, 9, true, 3);
         x.link(0, 1);
         x.step(0, 1);
         x.costs(77);
         x.had(1, true);
-        read(x, "many 2;");
+        Edges.read(x, "many 2;");
         return x;
     }
 
@@ -828,11 +792,11 @@ public final class PromiseTest {
         x.link(2, 0);
         x.step(0, 1);
         x.costs(78);
-        read(x, "many 3;");
+        Edges.read(x, "many 3;");
         due("deals ahead of going back", x.deals(1, NONE), 10);
-        put(x, "many 15;");
+        Edges.put(x, "many 15;");
         x.text();
-        put(x, "many 4;");
+        Edges.put(x, "many 4;");
         due("again", x.again(), 4);
         int[] all = {4, 2, 1, 1, 1, 77, 7, 0b0111, 0b0101};
         for (int i = 0; i < all.length; i++) due("about " + i, x.about(i), all[i]);
@@ -857,7 +821,7 @@ public final class PromiseTest {
     private static void about() {
         promise = 29;
         MorningCoin x = full();
-        put(x, "many");
+        Edges.put(x, "many");
         int[] all = {4, 2, 1, 1, 1, 77, 4, 0b0111, 0b0101};
         for (int i = 0; i < all.length; i++) due("about " + i, x.about(i), all[i]);
         due("about -1", x.about(-1), NONE);
