@@ -5,7 +5,7 @@ public final class EdgeTest {
     private EdgeTest() { }
 
     public static void main(String[] args) throws Exception {
-        Sheet sheet = new Sheet(Path.of(System.getProperty("document")));
+        Sheet sheet = new Sheet(Path.of(System.getProperty("document", "../shared/DOC.md")));
         new TermEdges(sheet).all();
         new WordEdges(sheet).all();
         new PromiseEdges(sheet).all();

@@ -286,11 +286,12 @@ final class PromiseEdges extends Edges {
             due("a byte's place", x.fault(1), place);
         }
         MorningCoin x = new MorningCoin();
-        for (int i = 1; i <= 15; i++) due("feed " + i, x.feed(0x20202020, 0x20202020, 0x20202020, 0x20202020, 0x20202020), 20 * i);
+        int blank = 0x20202020;
+        for (int i = 1; i <= 15; i++) due("feed " + i, x.feed(blank, blank, blank, blank, blank), 20 * i);
         due("bytes", x.about(6), 300);
         x.end(0);
         put(x, "man");
-        due("behind three", x.feed(0x7920323b, 0x20202020, 0x20202020, 0x20202020, 0x20202020), 23);
+        due("behind three", x.feed(0x7920323b, blank, blank, blank, blank), 23);
         due("they are read as one", x.text(), 0);
         says("NONE, and none come, if there would be more than 300.");
         for (int had = 278; had <= 300; had++) {
@@ -461,7 +462,8 @@ final class PromiseEdges extends Edges {
 
     private void odds() {
         under("Promise 13");
-        says("ODDS of a THING: AS FAR (what 0), thousandths of all DEALS (cut; 1), whether it STANDS by t (1, 0; 1000 + t).");
+        says("ODDS of a THING: AS FAR (what 0), thousandths of all DEALS (cut; 1),"
+            + " whether it STANDS by t (1, 0; 1000 + t).");
         MorningCoin x = four();
         read(x, "many 2;");
         due("as far", x.odds(0, 0, 0), 1);

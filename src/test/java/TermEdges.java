@@ -316,7 +316,7 @@ final class TermEdges extends Edges {
         answers(x, 1, 8, 2, 6, 4);
         due("less is better", x.odds(0, 1, 0), 14);
         read(x, "many 2;over sex=0;");
-        // Dealt 0, 4, 8, 4, 8, 12 with D none, 4/3, -4/3, 4/3, -4/3, 0 of the ANSWERS 8, 2, 6, 4.
+        // Dealt 0, 4, 4, 8, 8, 12: D is none, 4/3, 4/3, -4/3, -4/3, 0.
         answers(x, 0, 8, 2, 6, 4);
         due("as dealt", x.odds(1, 0, 0), 0);
         for (int c = 0; c < 4; c++) x.had(c, c == 2);
@@ -423,7 +423,7 @@ final class TermEdges extends Edges {
         due("none as far, by 1", x.paid(1, 15, 1), 11);
         read(x, "many 5;");
         due("no deals", x.paid(2, 15, 1000), 0);
-        // AS FAR 3 of 6, then 2 and 2: (2 * 3, 2 * 2, 3) * 1000 by 6 t.
+        // Each is AS FAR by 1 of 6: of more than six the first isn't PAID.
         x = four();
         read(x, "many 2;");
         for (int i = 0; i < 11; i++) {
@@ -920,7 +920,8 @@ final class TermEdges extends Edges {
     }
 
     private void draws() {
-        says("draw is X mod 100, X being first SEED * 7 + 11 (SEED 0 .. 9999), for each next CHILD (X * 171 + 5) mod 30323;");
+        says("draw is X mod 100, X being first SEED * 7 + 11 (SEED 0 .. 9999),"
+            + " for each next CHILD (X * 171 + 5) mod 30323;");
         // 11, 1886, 19281, 22172: 70004, 23627, 7263, 29058.
         life("value draw;", 0, 4, 11, 86, 81, 72);
         life("value draw;", 1, 4, 18, 83, 7, 84);
